@@ -535,12 +535,14 @@ public final class TalliedWindows {
         /** The number of the first fault; with NO_FAULT the picture is what the text tells. */
         int readInto(Picture picture) {
             Reader reader = new Reader(picture);
-            for (place = 0; place < length; place++) {
-                int fault = reader.take(letters[place]);
+            for (int i = 0; i < length; i++) {
+                place = i;
+                int fault = reader.take(letters[i]);
                 if (fault != NO_FAULT) {
                     return fault;
                 }
             }
+            place = length;
             return reader.takeRowEnd(true);
         }
     }

@@ -8,6 +8,7 @@ public final class AskingTest {
         tellsOfDots();
         talliesRectangles();
         refusesTallies();
+        forgetsAGreaterPicture();
         due.end();
     }
 
@@ -88,5 +89,24 @@ public final class AskingTest {
         due.is("tally, u too great", x.tally(0, 0, 2, 1, 9), TalliedWindows.UNKNOWN);
         due.is("tally, v too great", x.tally(0, 0, 1, 2, 9), TalliedWindows.UNKNOWN);
         due.is("tally, u below x, out of it", x.tally(0, 0, -1, 0, 999), TalliedWindows.UNKNOWN);
+    }
+
+    /** Nothing of what stood there may be found behind the dots of a smaller picture. */
+    private static void forgetsAGreaterPicture() {
+        TalliedWindows x = Due.withPicture("20--00--ff/--ff--00ff/000000----");
+        x.keep(0);
+        for (String text : new String[] {"30", "3031", "30/31", "303132/404142"}) {
+            Due.feedAll(x, text);
+            x.picture();
+            int sum = text.length() == 2 ? 0x30 : text.length() < 6 ? 0x61 : 0x30 + 0x31 + 0x32 + 0x40 + 0x41 + 0x42;
+            due.is("told(2) of " + text, x.told(2), 0);
+            due.is("told(3) of " + text, x.told(3), 0x30);
+            due.is("told(5) of " + text, x.told(5), sum);
+            x.keep(1);
+            due.is("against(1) of " + text, x.against(1), 0);
+            x.filter(0, 0, 50, 0, 1);
+            due.is("filtered(0) of " + text, x.filtered(0), 0);
+            x.goBack(0);
+        }
     }
 }

@@ -65,6 +65,9 @@ public final class DrawsTest {
         due.is("noise(-1)", x.noise(-1), TalliedWindows.OUTSIDE);
         due.is("the seed behind refusals", x.seed(0), 0);
         due.is("told(11) behind refusals", x.told(11), 0);
+        due.holds("noise(1)", x.noise(1) >= 0);
+        due.is("told(11) behind noise(1)", x.told(11), 1);
+        x.undo(1);
         due.holds("noise(12)", x.noise(12) >= 0);
         due.is("told(11) behind noise(12)", x.told(11), 12);
     }

@@ -90,6 +90,11 @@ public final class FiltersTest {
         x.filter(0, 0, 70, 0, 1);
         would(x, 2, 2, 2, 1, 1, 0, 0);
         due.is("told(11), would is no deed", x.told(11), 1);
+        x = Due.withPicture("0000010fff");
+        x.filter(4, 0, 50, 0, 1);
+        would(x, 0, 0, 0, 1, 5, 0, 255);
+        would(x, 0, 2, 0, 1, 5, 2, 255);
+        would(x, 0, 4, 0, 1, 5, 4, 255);
     }
 
     private static void countsByBorders() {
