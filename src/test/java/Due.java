@@ -15,14 +15,17 @@ final class Due {
         is(what, does ? 1 : 0, 1);
     }
 
-    /** All greys, row by row, as a text would tell them; masked dots in brackets, since they may have a grey. */
-    void shows(String when, TalliedWindows x, String want) {
+    void reads(String what, String got, String want) {
         asked++;
-        String got = shown(x);
         if (!got.equals(want)) {
             wrong++;
-            System.out.println(when + " shows " + got + ", due is " + want);
+            System.out.println(what + " reads " + got + ", due is " + want);
         }
+    }
+
+    /** All greys, row by row, as a text would tell them; masked dots in brackets, since they may have a grey. */
+    void shows(String when, TalliedWindows x, String want) {
+        reads(when, shown(x), want);
     }
 
     void end() {
@@ -42,6 +45,11 @@ final class Due {
             }
         }
         return all.toString();
+    }
+
+    /** The text of a picture of w by h whose dots are all the same. */
+    static String rows(String dot, int w, int h) {
+        return (dot.repeat(w) + "/").repeat(h - 1) + dot.repeat(w);
     }
 
     static void feedAll(TalliedWindows x, String text) {
