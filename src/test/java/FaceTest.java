@@ -1,10 +1,16 @@
+import java.io.IOException;
 import java.lang.reflect.Constructor;
 import java.lang.reflect.Field;
 import java.lang.reflect.Method;
 import java.lang.reflect.Modifier;
+import java.nio.file.Files;
+import java.nio.file.Path;
 import java.util.Arrays;
+import java.util.List;
 import java.util.Set;
 import java.util.TreeSet;
+import java.util.regex.Matcher;
+import java.util.regex.Pattern;
 
 /** The public face: what the document tells and nothing else (LANGUAGE.md, rule 1). */
 public final class FaceTest {
@@ -16,13 +22,45 @@ public final class FaceTest {
 
     private static final Due due = new Due();
 
-    public static void main(String[] args) {
+    public static void main(String[] args) throws IOException {
         due.is("modifiers of the class", TalliedWindows.class.getModifiers(), Modifier.PUBLIC | Modifier.FINAL);
         checkMethods();
         checkConstants();
         checkConstructors();
         checkClassesInside();
+        String document = Files.readString(Path.of("../shared/DOC.md"));
+        String source = Files.readString(Path.of("src/main/java/TalliedWindows.java"));
+        checkWords(document, source);
+        checkHeadings(document, source);
         due.end();
+    }
+
+    /** Each line of the document's face stands in the source, with a body where the document has none, in the same order. */
+    private static void checkWords(String document, String source) {
+        Matcher face = Pattern.compile("(?s)```java\n(.*?)\n```").matcher(document);
+        due.holds("the document has a face", face.find());
+        int from = 0;
+        for (String line : face.group(1).split("\n")) {
+            String wanted = line.replaceAll("\\);$", ") {");
+            int place = line.equals("}") ? from : source.indexOf(wanted + "\n", from);
+            due.holds("the source says, in the document's order: " + wanted, place >= 0);
+            from = Math.max(from, place);
+        }
+    }
+
+    /** "Ahead of the calls .. the interface says": the heading stands ahead of just these calls. */
+    private static void checkHeadings(String document, String source) {
+        Matcher told = Pattern.compile("Ahead of the calls (.*) the interface says: (---- .*)\\.").matcher(document);
+        int headings = 0;
+        while (told.find()) {
+            headings++;
+            String[] parts = source.split(Pattern.quote("    // " + told.group(2) + "\n"), -1);
+            due.is("how often the source says " + told.group(2), parts.length - 1, 1);
+            String behind = parts[parts.length - 1].split("    // ---- ", 2)[0];
+            List<String> calls = Pattern.compile("public int (\\w+)\\(").matcher(behind).results().map(m -> m.group(1)).toList();
+            due.reads("calls behind " + told.group(2), calls.toString(), "[" + told.group(1).replace("`", "") + "]");
+        }
+        due.is("headings", headings, 5);
     }
 
     private static void checkMethods() {
